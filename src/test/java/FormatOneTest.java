@@ -113,6 +113,8 @@ public final class FormatOneTest {
         Expect.refuses(1, withName("\0\0\0\0", "abcd\0"));
         Expect.refuses(1, Expect.bytes(66, 2, 0, 0, 0, 0, "a\0\0\0", 0, 0, 1, "a\0\0\0", 1, 0, 2));
         Expect.accepts(1, Expect.bytes(66, 3, 0, 0, 0, 0, "a\0\0\0", 0, 0, 1, "a\0\0\0", 1, 0, 0, "a\0\0\0", 1, 0, 0));
+        Expect.refuses(1, Expect.bytes(66, 3, 0, 0, 0, 0, "bad\0", 0, 0, 1, "bat\0", 0, 0, 1, "bad\0", 1, 0, 2));
+        Expect.accepts(1, Expect.bytes(66, 3, 0, 0, 0, 0, "bad\0", 0, 0, 1, "bat\0", 0, 0, 1, "dad\0", 1, 0, 2));
         Expect.accepts(1, Expect.bytes(66, 2, 0, 0, 0, 0, "ab\0\0", 0, 0, 1, "abc\0", 1, 0, 1));
     }
 

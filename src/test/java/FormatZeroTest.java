@@ -142,12 +142,16 @@ public final class FormatZeroTest {
         Expect.refuses(0, 7, 0, 0, 0, 0, 1, 0, 0, 0);
     }
 
-    private static int[] manySymbols(int n) {
+    private static int[] symbolRows(int n) {
         int[] rows = new int[0];
         for (int i = 0; i < n; i++) {
             rows = Expect.bytes(rows, 1, 0, 0);
         }
-        return Expect.bytes(7, 0, 0, 0, n, 0, rows, "x\0");
+        return rows;
+    }
+
+    private static int[] manySymbols(int n) {
+        return Expect.bytes(7, 0, 0, 0, n, 0, symbolRows(n), "x\0");
     }
 
     private static int[] manyRelocations(int r) {
@@ -163,6 +167,9 @@ public final class FormatZeroTest {
         Expect.refuses(0, manySymbols(9));
         Expect.dueObject(Expect.loaded(0, manyRelocations(10)), 0, 40, 0, 0, 0, 10);
         Expect.refuses(0, manyRelocations(11));
+        Expect.accepts(0, Expect.bytes(7, 2, 0, 0, 8, 1, 0, 0, 4, 0, 7, symbolRows(8), "x\0"));
+        // A symbol's number is no class, even where it would be the number of one in another format.
+        Expect.refuses(0, Expect.bytes(7, 2, 0, 0, 8, 1, 0, 0, 4, 0, 8, symbolRows(8), "x\0"));
         Expect.refuses(0, 7, 0, 0, 0, 1, 0);
         Expect.refuses(0, 7, 0, 0, 0, 255, 255);
     }

@@ -16,8 +16,11 @@ public final class LinkTest {
         locals();
         unresolved();
         clashes();
+        names();
         fields();
         latestLink();
+        oldRows();
+        largestImage();
         Expect.end();
     }
 
@@ -165,12 +168,25 @@ public final class LinkTest {
         int[] bss = plain(0, 0, 2, common("b", 3), defined("a", BSS, 0, GLOBAL));
         ObjectLinker x = linked(text, bss);
         Expect.dueThrow("two global definitions, before what is not resolved", Expect.STATE, () -> x.link(0));
+        ObjectLinker first = linked(text, plain(2, 0, 0, defined("a", TEXT, 0, GLOBAL)));
+        Expect.dueThrow("the first symbols of both", Expect.STATE, () -> first.link(0));
         Expect.dueThrow("an odd base, before two global definitions", Expect.ARGUMENT, () -> x.link(1));
         ObjectLinker y = linked(text, plain(2, 0, 0, defined("a", TEXT, 1, WEAK), common("z", 4)));
         Expect.due("a weak definition is no clash", 8, y.link(0));
         dueAddresses(y, 1, 0, 4);
         Expect.loads(y, 1, 2, bss);
         Expect.dueThrow("the first and the third", Expect.STATE, () -> y.link(0));
+    }
+
+    private static void names() {
+        ObjectLinker x = linked(
+            plain(4, 0, 0, defined("bad", TEXT, 1, GLOBAL), undefined("dad", GLOBAL), undefined("bat", GLOBAL)),
+            plain(4, 0, 0, defined("bat", TEXT, 2, GLOBAL), defined("dad", TEXT, 3, GLOBAL), undefined("bad", GLOBAL)));
+        Expect.due("link", 8, x.link(0));
+        dueAddresses(x, 0, 1, 7, 6);
+        dueAddresses(x, 1, 6, 7, 1);
+        Expect.loads(x, 1, 2, plain(0, 0, 0, defined("bad", TEXT, 0, GLOBAL)));
+        Expect.dueThrow("the same three letters", Expect.STATE, () -> x.link(0));
     }
 
     private static void fields() {
@@ -211,5 +227,38 @@ public final class LinkTest {
         dueAddresses(x, Integer.MAX_VALUE);
         Expect.due("address at the ends", -1, x.address(0, Integer.MAX_VALUE) & x.address(0, Integer.MIN_VALUE));
         Expect.due("image at the ends", -1, x.image(Integer.MAX_VALUE) & x.image(Integer.MIN_VALUE));
+    }
+
+    /** What objects that were taken away had is nothing of those that came in their place. */
+    private static void oldRows() {
+        ObjectLinker x = linked(
+            plain(2, 0, 0, defined("a", TEXT, 0, GLOBAL), undefined("n", GLOBAL), common("c", 9)),
+            plain(2, 0, 0, common("c", 20), common("n", 20), defined("w", TEXT, 0, WEAK)));
+        Expect.due("link", 4 + 20 + 20, x.link(0));
+        x.clear();
+        Expect.loads(x, 1, 0, plain(0, 0, 3, defined("a", BSS, 1, GLOBAL)));
+        Expect.loads(x, 1, 1, plain(0, 0, 0, common("c", 2)));
+        Expect.loads(x, 1, 2, plain(0, 0, 0, undefined("n", WEAK), undefined("w", WEAK)));
+        Expect.due("link", 6, x.link(0));
+        Expect.dueImage(x, 0, 0, 0, 0, 0, 0);
+        dueAddresses(x, 0, 1);
+        dueAddresses(x, 1, 4);
+        dueAddresses(x, 2, 0, 0);
+    }
+
+    private static void largestImage() {
+        ObjectLinker x = new ObjectLinker();
+        for (int k = 0; k < 3; k++) {
+            int[][] symbols = new int[8][];
+            for (int i = 0; i < 8; i++) {
+                symbols[i] = common(Character.toString('a' + 8 * k + i), 20);
+            }
+            Expect.loads(x, 1, k, plain(40, 40, 60, symbols));
+        }
+        Expect.due("link", 900, x.link(60000));
+        Expect.due("image(239)", 2, x.image(239));
+        Expect.due("image(899)", 0, x.image(899));
+        Expect.due("image(900)", -1, x.image(900));
+        Expect.due("address(2, 7)", 60880, x.address(2, 7));
     }
 }

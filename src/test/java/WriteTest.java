@@ -34,6 +34,8 @@ public final class WriteTest {
             "main\0a\0abcdef\0u\0"));
         ObjectLinker y = Expect.loaded(1, 66, 0, 1, 1, 2, 0, 0, 1, 9, 1, 7, 0, 0);
         Expect.writes(y, 0, 0, 7, 1, 2, 0, 0, 1, 7, 0, 0, 1 + 2, 0, 1);
+        ObjectLinker z = Expect.loaded(1, 66, 0, 1, 1, 2, 0, 0, 1, 8, 0, 7, 1, 2);
+        Expect.writes(z, 0, 0, 7, 1, 2, 0, 0, 1, 7, 2, 1, 1, 0, 0);
     }
 
     private static void formatOne() {
@@ -52,6 +54,9 @@ public final class WriteTest {
             255, 3, 0, 0, 0, 1, 4, 0, 2, 2, 3, 1, 7, 3, 0, 2, 14, 0, 0, 1,
             "a\0main\0abcdef\0u\0",
             2, 0, 2, 1, 0, 1, 0, 0, 0, 0, 1, 0));
+        ObjectLinker w = Expect.loaded(1, Expect.bytes(66, 2, 0, 0, 0, 0, "ab\0\0", 1, 0, 2, "c\0\0\0", 1, 0, 0));
+        Expect.writes(w, 0, 2, Expect.bytes(127, 69, 6, 1, 21, 0, 2, 21, 0, 3, 0, 0, 4, 21, 8, 5, 29, 5, 6, 34, 0,
+            0, 1, 0, 0, 2, 1, 0, 2, "c\0ab\0"));
         // Nameless ones of all classes, in their order, whatever the order of the relocations.
         ObjectLinker y = Expect.loaded(1, 66, 0, 4, 4, 4, 0,
             0, 0, 10, 0, 2, 0, 8, 1, 0, 1, 9, 0, 2, 1, 8, 0, 0, 1, 0, 2, 0, 3, 0, 4);
