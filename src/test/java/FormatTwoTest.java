@@ -12,6 +12,7 @@ public final class FormatTwoTest {
         names();
         relocations();
         counts();
+        missingKinds();
         Expect.end();
     }
 
@@ -189,5 +190,14 @@ public final class FormatTwoTest {
         Expect.refuses(2, manySymbols(20, 0));
         Expect.dueObject(Expect.loaded(2, manyRelocations(10)), 0, 40, 0, 0, 0, 10);
         Expect.refuses(2, manyRelocations(11));
+    }
+
+    /** A kind that is not there has none, whatever the file before it had. */
+    private static void missingKinds() {
+        ObjectLinker x = Expect.loaded(2, file(new int[] {255, 3, 0, 0, 0, 0, 0, 1}, "u\0", new int[] {0, 0, 0, 0}));
+        Expect.loads(x, 2, 1, Expect.bytes(127, 69, 2, 1, 9, 4, 4, 13, 4, Expect.times(4, 1), 255, 1, 0, 0, Expect.times(60, 0)));
+        Expect.dueObject(x, 1, 4, 0, 0, 0, 0);
+        Expect.loads(x, 2, 2, 127, 69, 0);
+        Expect.dueObject(x, 2, 0, 0, 0, 0, 0);
     }
 }

@@ -244,6 +244,12 @@ public final class LinkTest {
         dueAddresses(x, 0, 1);
         dueAddresses(x, 1, 4);
         dueAddresses(x, 2, 0, 0);
+        ObjectLinker y = linked(plain(1, 0, 0, defined("ax", TEXT, 1, GLOBAL)), plain(0, 0, 0, undefined("ay", WEAK)));
+        y.clear();
+        Expect.loads(y, 1, 0, plain(1, 0, 0, defined("a", TEXT, 1, GLOBAL)));
+        Expect.loads(y, 1, 1, plain(0, 0, 0, undefined("a", GLOBAL)));
+        Expect.due("letters of longer names that were there", 2, y.link(0));
+        dueAddresses(y, 1, 1);
     }
 
     private static void largestImage() {
