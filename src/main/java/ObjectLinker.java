@@ -35,21 +35,19 @@ public final class ObjectLinker {
     private Tape output;
     private Tape draft;
     private final Format[] formats;
+    private final Linkage linkage;
     private final Unit[] units;
     private int unitCount;
-    private final Linkage linkage;
 
     public ObjectLinker() {
         fed = new Tape();
         output = new Tape();
         draft = new Tape();
         formats = new Format[] {new FormatZero(), new FormatOne(), new FormatTwo()};
-        units = new Unit[MAX_OBJECTS];
-        for (int k = 0; k < MAX_OBJECTS; k++) {
-            units[k] = new Unit();
-        }
+        // The link reads the same objects; it makes them, so that this constructor hands out nothing of its own.
+        linkage = new Linkage();
+        units = linkage.units;
         unitCount = 0;
-        linkage = new Linkage(units);
     }
 
     public boolean feed(long v, int n) {
@@ -1015,8 +1013,11 @@ public final class ObjectLinker {
         private final int[] commonStarts = new int[INDICES];
         private int position;
 
-        private Linkage(Unit[] units) {
-            this.units = units;
+        private Linkage() {
+            units = new Unit[MAX_OBJECTS];
+            for (int k = 0; k < MAX_OBJECTS; k++) {
+                units[k] = new Unit();
+            }
         }
 
         private int imageByte(int i) {
